@@ -587,7 +587,6 @@ public final class VisaPages {
             rights[stamp] = withRights;
             root[stamp] = ofRoot;
             forged[stamp] = isForged;
-            // The row may hold what an undone stamp left there.
             taken[stamp] = false;
             made++;
             return stamp;

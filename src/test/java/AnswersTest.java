@@ -258,6 +258,9 @@ public final class AnswersTest {
         x.takeBack(5);
         due("19: not those that are not good", x.needless(2), 1L << 3);
         due("19: another page", x.needless(3), 0);
+        x.stamp(0, 1, 2, 7);
+        x.takeBack(1);
+        due("19: also stamp 0", x.needless(2), 1L | 1L << 3 | 1L << 6);
         x.own(2, 3);
         due("19: no good stamps", x.needless(2), 0);
         for (int far : new int[] {-1, 12, NONE, Integer.MIN_VALUE, Integer.MAX_VALUE}) {

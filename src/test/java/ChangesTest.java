@@ -342,6 +342,8 @@ public final class ChangesTest {
         due("7: WIPE 2, one that no door leads by", x.takeBack(4), 0);
         due("7: WIPE 2, with those given on", x.takeBack(0), 2);
         due("7: the note of the other page stays", x.note(0, 3), 1);
+        due("7: with its guest", x.note(0, 0), 2);
+        due("7: with its need", x.note(0, 2), VisaPages.WRITE);
         due("7: wiped", x.count(7), 2);
     }
 

@@ -15,6 +15,7 @@ public final class UndoTest {
         promise26Save();
         promise27Restore();
         promise27RestoreAll();
+        promise27OtherNumbers();
         stampsMadeAgain();
         Due.end("UndoTest");
     }
@@ -221,6 +222,28 @@ public final class UndoTest {
         x.come(5, 5, VisaPages.WRITE);
         due("27: restore", x.restore(1), 2);
         Due.same("27: all of it", Due.told(x), saved);
+    }
+
+    /** What a slot and the history have is theirs, also when other stamps and notes took the same numbers since. */
+    private static void promise27OtherNumbers() {
+        VisaPages x = new VisaPages();
+        x.set(VisaPages.WIPE, 1);
+        Due.putText(x, "o0=0;s0>1:0*7;p0>2*5;p1>3*1;d1.4=0;d2.6=1;?1.4r;?2.6r");
+        due("27: orders", x.carryOut(), 8);
+        x.forge(4, 5, 9, 6, 1);
+        x.takeBack(3);
+        due("27: save", x.save(0), 4);
+        String saved = Due.told(x);
+        for (int undone = 0; undone < 3; undone++) {
+            x.undo();
+        }
+        Due.putText(x, "o5=5;s5>4:5*2;s5>3:5*3;s5>0:5*7;s5>2:5*3;d4.1=0;d3.2=1;?4.1w;?3.2w;t2");
+        due("27: other orders", x.carryOut(), 10);
+        String other = Due.told(x);
+        due("27: restore", x.restore(0), 4);
+        Due.same("27: the slot", Due.told(x), saved);
+        due("27: undo", x.undo(), 2);
+        Due.same("27: the history", Due.told(x), other);
     }
 
     /** A row of an undone stamp may not show in the one that takes its number. */
