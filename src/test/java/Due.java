@@ -31,8 +31,27 @@ final class Due {
         return number;
     }
 
+    /** How many pieces told() falls into, so that a house with 40 stamps can be told within 512 calls of each object. */
+    static final int PIECES = 3;
+
     /** Every answer that tells of the state, but for the pad, the history and the slots. */
     static String told(VisaPages x) {
+        StringBuilder all = new StringBuilder();
+        for (int piece = 0; piece < PIECES; piece++) {
+            all.append(piece(x, piece));
+        }
+        return all.toString();
+    }
+
+    static String piece(VisaPages x, int piece) {
+        switch (piece) {
+            case 0: return rooms(x);
+            case 1: return stamps(x, 0, 20);
+            default: return stamps(x, 20, 40);
+        }
+    }
+
+    private static String rooms(VisaPages x) {
         StringBuilder all = new StringBuilder();
         for (int what = 0; what <= 12; what++) {
             all.append(x.count(what)).append(' ');
@@ -46,12 +65,6 @@ final class Due {
             }
             all.append(x.needless(page)).append(' ');
         }
-        for (int stamp = 0; stamp < x.count(0); stamp++) {
-            for (int what = 0; what < 10; what++) {
-                all.append(x.ofStamp(stamp, what)).append(' ');
-            }
-            all.append(x.hides(stamp)).append(' ');
-        }
         for (int note = 0; note < x.count(2); note++) {
             for (int what = 0; what < 4; what++) {
                 all.append(x.note(note, what)).append(' ');
@@ -62,7 +75,19 @@ final class Due {
                 all.append(x.leads(guest, door)).append(' ');
             }
         }
-        return all.append(x.longest()).toString();
+        return all.append(x.longest()).append(' ').toString();
+    }
+
+    private static String stamps(VisaPages x, int from, int to) {
+        StringBuilder all = new StringBuilder();
+        int end = Math.min(x.count(0), to);
+        for (int stamp = from; stamp < end; stamp++) {
+            for (int what = 0; what < 10; what++) {
+                all.append(x.ofStamp(stamp, what)).append(' ');
+            }
+            all.append(x.hides(stamp)).append(' ');
+        }
+        return all.toString();
     }
 
     static void same(String call, String got, String want) {

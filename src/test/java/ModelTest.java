@@ -1,6 +1,9 @@
-/** Runs of 512 drawn calls, each answered by the class and by PlainModel, which have to agree. */
+/**
+ * Runs of exactly 512 drawn calls, each answered by the class and by PlainModel, which have to agree: a third of them
+ * changes and asks up to the last call, the others ask alone in the end.
+ */
 public final class ModelTest {
-    private static final int RUNS = 600, CALLS = 512;
+    private static final int RUNS = 3000, CALLS = 512, LONGEST_TEXT = 16;
     private static final int[] ODD = {-6, -1, -7, 40, 99, Integer.MIN_VALUE, Integer.MAX_VALUE, 64, 1 << 20};
 
     // Numbers drawn by a rule of our own: the same ones in each run of the test.
@@ -8,6 +11,7 @@ public final class ModelTest {
     private int oddity;
     private VisaPages x;
     private PlainModel m;
+    private int made;
     private String told = "";
 
     public static void main(String[] args) {
@@ -23,15 +27,18 @@ public final class ModelTest {
         x = new VisaPages();
         m = new PlainModel();
         int style = run % 5;
-        for (int call = 0; call < CALLS; call++) {
-            int from = run * 1000 + call;
-            if (call < 30 && style != 0) {
+        int changing = run % 3 == 0 ? CALLS : 60 + draw(350);
+        while (made < CALLS) {
+            int from = run * 1000 + made;
+            if (made < 30 && style != 0) {
                 start(from, style);
-            } else {
+            } else if (made < changing) {
                 any(from, style);
+            } else {
+                ask(from);
             }
         }
-        tellAll(run);
+        Due.due("run " + run + ": calls", made, CALLS);
     }
 
     private int draw(int below) {
@@ -45,6 +52,7 @@ public final class ModelTest {
 
     private void agree(int from, String call, long got, long want) {
         told = call;
+        made++;
         Due.due("run and call " + from + ": " + call, got, want);
     }
 
@@ -61,7 +69,7 @@ public final class ModelTest {
 
     private void any(int from, int style) {
         int kind = draw(100);
-        if (style == 3 && kind < 25) {
+        if (style == 3 && kind < 25 && CALLS - made >= LONGEST_TEXT) {
             text(from);
             return;
         }
@@ -86,11 +94,12 @@ public final class ModelTest {
         else if (kind < 86) { int s = stampNumber(); agree(from, "hides " + s, x.hides(s), m.hides(s)); }
         else if (kind < 88) { int p = number(5); agree(from, "needless", x.needless(p), m.needless(p)); }
         else if (kind < 90) { agree(from, "longest", x.longest(), m.longest()); }
-        else if (kind < 94) { text(from); }
-        else if (kind < 97) { agree(from, "undo after " + told, x.undo(), m.undo()); }
-        else if (kind < 98) { int s = number(2); agree(from, "save", x.save(s), m.save(s)); }
-        else if (kind < 99) { int s = number(2); agree(from, "restore", x.restore(s), m.restore(s)); }
-        else { tellAll(from); }
+        else if (kind < 93) { agree(from, "undo after " + told, x.undo(), m.undo()); }
+        else if (kind < 94) { int s = number(2); agree(from, "save", x.save(s), m.save(s)); }
+        else if (kind < 95) { int s = number(2); agree(from, "restore", x.restore(s), m.restore(s)); }
+        else if (kind < 96) { agree(from, "carryOut", x.carryOut(), m.carryOut()); }
+        else if (CALLS - made >= LONGEST_TEXT) { text(from); }
+        else { ask(from); }
     }
 
     private int stampNumber() {
@@ -178,40 +187,22 @@ public final class ModelTest {
         }
     }
 
-    private void tellAll(int from) {
-        for (int what = 0; what < 15; what++) {
-            agree(from, "count " + what, x.count(what), m.count(what));
+    private void ask(int from) {
+        int g = number(6), d = draw(2) == 0 ? draw(4) : number(10), n = draw(2) + 1, p = draw(3) == 0 ? number(12) : draw(5);
+        int s = stampNumber(), w = number(10);
+        switch (draw(12)) {
+            case 0: agree(from, "count " + (w + d) % 15, x.count((w + d) % 15), m.count((w + d) % 15)); break;
+            case 1: agree(from, "ended " + w, x.ended(w), m.ended(w)); break;
+            case 2: agree(from, "ofPage " + p + " " + w % 4, x.ofPage(p, w % 4), m.ofPage(p, w % 4)); break;
+            case 3: agree(from, "needless " + p, x.needless(p), m.needless(p)); break;
+            case 4: agree(from, "ofStamp " + s + " " + w, x.ofStamp(s, w), m.ofStamp(s, w)); break;
+            case 5: agree(from, "hides " + s, x.hides(s), m.hides(s)); break;
+            case 6: agree(from, "note " + d + " " + w % 4, x.note(d, w % 4), m.note(d, w % 4)); break;
+            case 7: agree(from, "leads " + g + " " + d, x.leads(g, d), m.leads(g, d)); break;
+            case 8: agree(from, "walk", x.walk(g, d, n, 0), m.walk(g, d, n, 0)); break;
+            case 9: agree(from, "walk's steps", x.walk(g, d, n, 1), m.walk(g, d, n, 1)); break;
+            case 10: agree(from, "fault", x.fault(), m.fault()); break;
+            default: agree(from, "longest", x.longest(), m.longest()); break;
         }
-        for (int reason = 0; reason < 7; reason++) {
-            agree(from, "ended " + reason, x.ended(reason), m.ended(reason));
-        }
-        for (int page = 0; page < 12; page++) {
-            for (int what = 0; what < 4; what++) {
-                agree(from, "ofPage " + page + " " + what, x.ofPage(page, what), m.ofPage(page, what));
-            }
-            agree(from, "needless " + page, x.needless(page), m.needless(page));
-        }
-        for (int stamp = 0; stamp <= m.count(0); stamp++) {
-            for (int what = 0; what < 10; what++) {
-                agree(from, "ofStamp " + stamp + " " + what, x.ofStamp(stamp, what), m.ofStamp(stamp, what));
-            }
-            agree(from, "hides " + stamp, x.hides(stamp), m.hides(stamp));
-        }
-        for (int note = 0; note <= m.count(2); note++) {
-            for (int what = 0; what < 4; what++) {
-                agree(from, "note " + note + " " + what, x.note(note, what), m.note(note, what));
-            }
-        }
-        for (int guest = 0; guest < 6; guest++) {
-            for (int door = 0; door < 10; door++) {
-                agree(from, "leads " + guest + " " + door, x.leads(guest, door), m.leads(guest, door));
-                for (int need = 1; need < 3; need++) {
-                    agree(from, "walk", x.walk(guest, door, need, 0), m.walk(guest, door, need, 0));
-                    agree(from, "walk's steps", x.walk(guest, door, need, 1), m.walk(guest, door, need, 1));
-                }
-            }
-        }
-        agree(from, "longest", x.longest(), m.longest());
-        agree(from, "fault", x.fault(), m.fault());
     }
 }
