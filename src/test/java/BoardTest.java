@@ -20,6 +20,7 @@ public final class BoardTest {
         wipeByOwner();
         wipeGoodAgain();
         wipeByDoor();
+        wipeOfFullBoards();
         flush();
         badEndsLeaveNoNote();
         Due.end("BoardTest");
@@ -338,6 +339,48 @@ public final class BoardTest {
         VisaPages x = threeWays(2);
         Due.due("an error wipes nothing", x.door(2, 2, 7), VisaPages.NO_SUCH);
         Due.same("notes", board(x), "1110 2210 3310 4417 2220 ");
+    }
+
+    /** Boards of each size that are full: door n of guest 1 leads by stamp n, the odd stamps are for page 1. */
+    private static VisaPages fullBoard(int size, int wipe) {
+        VisaPages x = new VisaPages();
+        x.own(0, 0);
+        x.own(1, 0);
+        x.set(BOARD, size);
+        x.set(WIPE, wipe);
+        for (int door = 0; door < size; door++) {
+            x.stamp(0, 1, door % 2, 7);
+            x.door(1, door, door);
+            Due.due("come", x.come(1, door, READ), 0);
+        }
+        return x;
+    }
+
+    private static void wipeOfFullBoards() {
+        for (int size = 1; size <= 8; size++) {
+            for (int wipe = 0; wipe <= 2; wipe++) {
+                String call = "WIPE " + wipe + ", BOARD " + size + ", ";
+                for (int stamp = 0; stamp < size; stamp++) {
+                    int ofPage = stamp % 2 == 0 ? (size + 1) / 2 : size / 2;
+                    VisaPages x = fullBoard(size, wipe);
+                    Due.due(call + "takeBack(" + stamp + ")", x.takeBack(stamp), wipe == 0 ? size : wipe == 1 ? ofPage : 1);
+                }
+                VisaPages x = fullBoard(size, wipe);
+                Due.due(call + "own(1, 5)", x.own(1, 5), wipe == 0 ? size : size / 2);
+                Due.due(call + "own(0, 5)", x.own(0, 5), wipe == 0 ? 0 : (size + 1) / 2);
+                Due.due(call + "notes", x.count(2), 0);
+                Due.due(call + "wiped", x.count(7), size);
+                VisaPages y = fullBoard(size, wipe);
+                Due.due(call + "a page without notes", y.own(2, 5), wipe == 0 ? size : 0);
+                VisaPages z = fullBoard(size, wipe);
+                Due.due(call + "the last door is shut", z.door(1, size - 1, NONE), 1);
+                Due.due(call + "notes", z.count(2), size - 1);
+                VisaPages n = fullBoard(size, wipe);
+                n.set(NAMES, 0);
+                Due.due(call + "another guest", n.come(0, 0, READ), 1);
+                Due.due(call + "wiped", n.count(7), size);
+            }
+        }
     }
 
     private static void flush() {
