@@ -103,8 +103,8 @@ public final class VisaPages {
             case 2: return stamps.holder[stamp];
             case 3: return stamps.rights[stamp];
             case 4: return stamps.root[stamp];
-            case 5: return stamps.forged[stamp] ? 1 : 0;
-            case 6: return stamps.taken[stamp] ? 1 : 0;
+            case 5: return isIn(stamps.forged, stamp) ? 1 : 0;
+            case 6: return isIn(stamps.taken, stamp) ? 1 : 0;
             case 7: return isIn(house.goodStamps(NONE), stamp) ? 1 : 0;
             case 8: return stamps.chainLength(stamp);
             case 9: return stamps.countBelow(stamp);
@@ -372,11 +372,11 @@ public final class VisaPages {
             if (!stamps.has(stamp)) {
                 return NO_SUCH;
             }
-            if (stamps.taken[stamp]) {
+            if (isIn(stamps.taken, stamp)) {
                 return NOT_POSSIBLE;
             }
             long goodBefore = goodStamps(NONE);
-            stamps.taken[stamp] = true;
+            stamps.taken |= 1L << stamp;
             return wipeStale(stamps.page[stamp], goodBefore);
         }
 
@@ -464,7 +464,7 @@ public final class VisaPages {
             // A root has a lower number than its stamp, so it is settled before the stamp is asked.
             for (int stamp = 0; stamp < stamps.made; stamp++) {
                 int root = stamps.root[stamp];
-                boolean valid = stamp != without && !stamps.forged[stamp] && !stamps.taken[stamp];
+                boolean valid = stamp != without && !isIn(stamps.forged | stamps.taken, stamp);
                 if (valid && (root == NONE || isIn(good, root)) && isBacked(stamp)) {
                     good |= 1L << stamp;
                 }
@@ -546,15 +546,15 @@ public final class VisaPages {
         }
     }
 
-    /** The stamps in the order in which they were made, a row for each thing that is known of them. */
+    /** The stamps in the order in which they were made: a row, or a set as a bit mask, for each thing known of them. */
     private static final class Stamps {
         final int[] page = new int[STAMPS];
         final int[] giver = new int[STAMPS];
         final int[] holder = new int[STAMPS];
         final int[] rights = new int[STAMPS];
         final int[] root = new int[STAMPS];
-        final boolean[] forged = new boolean[STAMPS];
-        final boolean[] taken = new boolean[STAMPS];
+        long forged;
+        long taken;
         int made;
 
         void copyFrom(Stamps other) {
@@ -563,8 +563,8 @@ public final class VisaPages {
             System.arraycopy(other.holder, 0, holder, 0, STAMPS);
             System.arraycopy(other.rights, 0, rights, 0, STAMPS);
             System.arraycopy(other.root, 0, root, 0, STAMPS);
-            System.arraycopy(other.forged, 0, forged, 0, STAMPS);
-            System.arraycopy(other.taken, 0, taken, 0, STAMPS);
+            forged = other.forged;
+            taken = other.taken;
             made = other.made;
         }
 
@@ -586,8 +586,9 @@ public final class VisaPages {
             page[stamp] = forPage;
             rights[stamp] = withRights;
             root[stamp] = ofRoot;
-            forged[stamp] = isForged;
-            taken[stamp] = false;
+            if (isForged) {
+                forged |= 1L << stamp;
+            }
             made++;
             return stamp;
         }
@@ -753,10 +754,10 @@ public final class VisaPages {
             if (atDoor && stamps.holder[stamp] != guest) {
                 return NOT_HOLDER;
             }
-            if (stamps.forged[stamp]) {
+            if (isIn(stamps.forged, stamp)) {
                 return FORGED;
             }
-            if (stamps.taken[stamp]) {
+            if (isIn(stamps.taken, stamp)) {
                 return TAKEN;
             }
             if (atDoor && (stamps.rights[stamp] & need) == 0) {

@@ -103,6 +103,7 @@ public final class FaceTest {
         yes("nothing of System but arraycopy", !code.matches("(?s).*\\bSystem\\.(?!arraycopy\\().*"));
         yes("no lambda, no method reference", !code.contains("->") && !code.contains("::"));
         yes("no import but Arrays", code.split("\\bimport\\b").length <= 2 && code.contains("import java.util.Arrays;"));
+        yes("arrays that are copied hold numbers alone", !code.contains("boolean["));
         yes("no text is joined by +", !code.matches("(?s).*\"\\s*\\+.*|.*\\+\\s*\".*"));
         yes("plain signs alone", code.chars().allMatch(sign -> sign == '\n' || sign >= 32 && sign < 127));
     }
